@@ -187,8 +187,7 @@ public final class PrintRoom {
         int previous = found.held ? 1 : 0;
         found.held = held == 1;
         if (found.held) {
-            machine.giveUpWorkOf(job);
-            machine.queue.forgetLatest(found);
+            machine.interrupt(found);
         }
         return previous;
     }
@@ -203,7 +202,7 @@ public final class PrintRoom {
         }
         history.keep(machine);
         int printed = found.printed;
-        machine.giveUpWorkOf(job);
+        machine.interrupt(found);
         machine.queue.remove(found);
         machine.ledger.add(CANCELLED, 1);
         return printed;
@@ -571,10 +570,6 @@ public final class PrintRoom {
                 jobs[kept] = job;
                 size = kept;
             }
-            forgetLatest(job);
-        }
-
-        void forgetLatest(Job job) {
             if (latest == job.number) {
                 latest = NONE;
             }
@@ -906,6 +901,14 @@ public final class PrintRoom {
                 ledger.add(FINISHED, 1);
                 queue.remove(job);
             }
+        }
+
+        /** What a job loses that is held or cancelled: its work under way, and that it stays the next one. */
+        void interrupt(Job job) {
+            if (queue.latest == job.number) {
+                queue.latest = Queue.NONE;
+            }
+            giveUpWorkOf(job.number);
         }
 
         void giveUpWorkOf(int job) {
