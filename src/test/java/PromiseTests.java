@@ -1,18 +1,7 @@
+import java.util.List;
+
 /** For each promise: ordinary calls, the edges that the document names, and wrong arguments. Answers are worked out by hand. */
-public final class PromiseTests {
-    private static final int INVALID = -1;
-    private static final int IMPOSSIBLE = -2;
-    private static final int LIMIT = -3;
-    private static final int MISSING = -4;
-    private static final int[] FAR = {Integer.MIN_VALUE, Integer.MAX_VALUE};
-
-    private static final int BOTH = 1;
-    private static final int GATHER = 2;
-    private static final int STAPLE1 = 4;
-    private static final int STAPLE2 = 8;
-
-    private static final Checks CHECKS = new Checks();
-
+public final class PromiseTests extends RoomChecks {
     private PromiseTests() {
     }
 
@@ -55,37 +44,6 @@ public final class PromiseTests {
         enter();
         errorsChangeNothing();
         CHECKS.end("PromiseTests");
-    }
-
-    private static void due(String call, int got, int want) {
-        CHECKS.due(call, got, want);
-    }
-
-    /** A machine with 100 sheets of A4 plain. */
-    private static PrintRoom filled() {
-        PrintRoom x = new PrintRoom();
-        x.fill(0, 100);
-        return x;
-    }
-
-    private static int write(PrintRoom x, String text) {
-        int length = 0;
-        for (char sign : text.toCharArray()) {
-            length = x.type(sign);
-        }
-        return length;
-    }
-
-    /** Puts another text in the place of the present one. */
-    private static void rewrite(PrintRoom x, String text) {
-        x.clearText();
-        write(x, text);
-    }
-
-    private static void fault(PrintRoom x, String text, int index, int reason) {
-        rewrite(x, text);
-        due("fault(0) of '" + text + "'", x.fault(0), index);
-        due("fault(1) of '" + text + "'", x.fault(1), reason);
     }
 
     private static void newObject() {
@@ -493,22 +451,15 @@ public final class PromiseTests {
         x.hold(5, 1);
         x.hold(2, 1);
         x.hold(0, 1);
-        queue(x, 1, 4, 3, 5, 2, 0);
+        queue("14", x, 1, 4, 3, 5, 2, 0);
         x.hold(5, 0);
-        queue(x, 5, 1, 4, 3, 2, 0);
+        queue("14", x, 5, 1, 4, 3, 2, 0);
         x.run(1);
         x.priority(5, 0);
-        queue(x, 5, 1, 4, 3, 2, 0);
+        queue("14", x, 5, 1, 4, 3, 2, 0);
         due("14: negative", x.queued(-1), INVALID);
         due("14: far", x.queued(Integer.MIN_VALUE), INVALID);
         due("14: far", x.queued(Integer.MAX_VALUE), MISSING);
-    }
-
-    private static void queue(PrintRoom x, int... numbers) {
-        for (int i = 0; i < numbers.length; i++) {
-            due("14: place " + i, x.queued(i), numbers[i]);
-        }
-        due("14: not so many", x.queued(numbers.length), MISSING);
     }
 
     private static void nextJobStays() {
@@ -517,15 +468,15 @@ public final class PromiseTests {
         x.job(2, 1, 1, 0, 0);
         x.run(1);
         x.priority(1, 9);
-        queue(x, 0, 1);
+        queue("14", x, 0, 1);
         x.run(2);
         due("14: the begun one goes on", x.count(7), 0);
         x.hold(0, 1);
-        queue(x, 1, 0);
+        queue("14", x, 1, 0);
         x.hold(0, 0);
-        queue(x, 1, 0);
+        queue("14", x, 1, 0);
         x.priority(0, 9);
-        queue(x, 0, 1);
+        queue("14", x, 0, 1);
         x.priority(0, 8);
         x.run(1);
         due("14: the other one is begun", x.count(7), 1);
@@ -534,9 +485,9 @@ public final class PromiseTests {
         due("14: then the first one again", x.count(7), 0);
         x.job(1, 1, 1, 0, 0);
         x.priority(2, 9);
-        queue(x, 0, 2);
+        queue("14", x, 0, 2);
         x.cancel(0);
-        queue(x, 2);
+        queue("14", x, 2);
 
         PrintRoom y = filled();
         y.job(2, 1, 1, 0, GATHER + STAPLE1);
@@ -549,7 +500,7 @@ public final class PromiseTests {
         due("15: stapled", y.count(6), 2);
         y.hold(0, 1);
         y.hold(0, 0);
-        queue(y, 1, 0);
+        queue("14", y, 1, 0);
         due("15: a stapling does not keep it", y.run(2), 1);
         y.run(1);
         due("15: then it is stapled", y.count(6), 2);
@@ -979,7 +930,7 @@ public final class PromiseTests {
         x.job(3, 2, 1, 0, GATHER + STAPLE1);
         x.job(2, 2, 1, 0, 0);
         x.run(14);
-        int[] before = told(x);
+        List<String> before = told(x);
         x.run(5);
         x.priority(0, 3);
         x.hold(0, 1);
@@ -987,7 +938,7 @@ public final class PromiseTests {
         for (int i = 0; i < 4; i++) {
             x.undo();
         }
-        same(x, before);
+        same("22: the same", told(x), before);
         x.job(1, 1, 2, 3, 0);
         x.set(1, 9);
         x.staples(3);
@@ -996,7 +947,7 @@ public final class PromiseTests {
         x.undo();
         x.undo();
         x.undo();
-        same(x, before);
+        same("22: the same", told(x), before);
         x.load(1, 0, 3);
         x.fill(1, 4);
         rewrite(x, "1p 1c A5 film;1p 1c A4 plain;");
@@ -1004,7 +955,7 @@ public final class PromiseTests {
         x.undo();
         x.undo();
         x.undo();
-        same(x, before);
+        same("22: the same", told(x), before);
         due("22: the text stays", x.count(16), 29);
         due("22: it goes on as before", x.run(8), 3);
         undoForgetsPapers();
@@ -1033,38 +984,6 @@ public final class PromiseTests {
         due("22: the first one again", x.paper(0, 0), 0);
         due("22: its kind", x.paper(0, 1), 3);
         due("22: the second one", x.paper(1, 0), 1);
-    }
-
-    private static int[] told(PrintRoom x) {
-        int[] told = new int[100];
-        int next = 0;
-        for (int i = 0; i < 15; i++) {
-            told[next++] = x.count(i);
-        }
-        for (int i = 0; i < 9; i++) {
-            told[next++] = x.account(i);
-        }
-        for (int i = 0; i < 4; i++) {
-            told[next++] = x.tray(i, 0) * 10000 + x.tray(i, 1) * 1000 + x.tray(i, 2);
-            told[next++] = x.queued(i);
-        }
-        for (int i = 0; i < 26; i++) {
-            told[next++] = x.jobInfo(i / 13, i % 13);
-        }
-        for (int i = 0; i < 9; i++) {
-            told[next++] = x.paper(i / 3, i % 3);
-        }
-        told[next++] = x.stop();
-        told[next++] = x.ticksTo(0);
-        told[next++] = x.ticksTo(1);
-        return told;
-    }
-
-    private static void same(PrintRoom x, int[] before) {
-        int[] now = told(x);
-        for (int i = 0; i < now.length; i++) {
-            due("22: the same, " + i, now[i], before[i]);
-        }
     }
 
     private static void type() {
@@ -1193,7 +1112,7 @@ public final class PromiseTests {
         x.job(5, 2, 1, 0, GATHER);
         x.run(3);
         rewrite(x, "1p 1c staple1 A4 plain;");
-        int[] before = told(x);
+        List<String> before = told(x);
         int states = x.count(15);
         x.fill(1, 1);
         x.fill(0, 0);
@@ -1211,7 +1130,7 @@ public final class PromiseTests {
         x.run(0);
         x.enter();
         x.type(127);
-        same(x, before);
+        same("22: the same", told(x), before);
         due("26: no states", x.count(15), states);
         due("26: the text", x.count(16), 23);
         due("26: what refusal tells", x.refusal(), 1);
