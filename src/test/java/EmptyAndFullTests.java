@@ -84,7 +84,13 @@ public final class EmptyAndFullTests extends RoomChecks {
         due("held jobs: ten", x.count(1), 10);
         due("held jobs: in the queue all the same", x.job(1, 1, A4, PLAIN, 0), LIMIT);
         due("held jobs: no next one", x.stop(), 1);
-        queue("held jobs", x, 0, 1, 2, 3, 4, 5, 6, 7, 8, 9);
+        write(x, "1p 1c A4 plain;1p 1c A4 plain;");
+        due("held jobs: no room for a text's one", x.fault(0), 0);
+        x.cancel(9);
+        due("held jobs: room for one of a text", x.fault(0), 15);
+        due("held jobs: not for both", x.enter(), IMPOSSIBLE);
+        due("held jobs: room for one", x.job(1, 1, A4, PLAIN, 0), 10);
+        queue("held jobs", x, 10, 0, 1, 2, 3, 4, 5, 6, 7, 8);
     }
 
     private static void roomAgain() {
@@ -462,6 +468,23 @@ public final class EmptyAndFullTests extends RoomChecks {
         PrintRoom twin = busy();
         twin.run(40);
         same("kept: " + name + ", and it goes on as ever", told(z), told(twin));
+        keptInFullHistory(name, call);
+    }
+
+    private static void keptInFullHistory(String name, Call call) {
+        PrintRoom x = busy();
+        for (int staples = 50; staples < 54; staples++) {
+            x.staples(staples);
+        }
+        call.on(x);
+        due("kept: " + name + ", the fifth state: the oldest one is dropped", x.count(15), 4);
+        due("kept: " + name + ", the latest one", x.undo(), 3);
+        for (int left = 2; left >= 0; left--) {
+            due("kept: " + name + ", the one ahead of it", x.count(4), 51 + left);
+            due("kept: " + name + ", left", x.undo(), left);
+        }
+        due("kept: " + name + ", the oldest one that is left", x.count(4), 50);
+        due("kept: " + name + ", no more", x.undo(), IMPOSSIBLE);
     }
 
     private static void nothingElseIsKept() {

@@ -1021,7 +1021,7 @@ public final class PromiseTests extends RoomChecks {
             "9p 9c both gather letter film;", "9p 9c gather staple1 A4 plain;", "9p 9c both gather staple2 A4 plain;",
             "1p 1c A5 plain;1p 1c A4 thick;1p 1c A3 colored;1p 1c letter film;"};
         for (String text : right) {
-            fault(x, text, MISSING, MISSING);
+            fault(new PrintRoom(), text, MISSING, MISSING);
         }
         String[] wrong = {" ", ";", "1", "1p", "1p 1c A4 plain", "1p 1c A4 ;", "1p 1c plain;", "1p 1c;", "1p A4 plain;", "1c 1p A4 plain;",
             "0001p 1c A4 plain;", "1p 0001c A4 plain;", "p 1c A4 plain;", "1p c A4 plain;", "1 p 1c A4 plain;", "1p  1c A4 plain;",
@@ -1033,7 +1033,7 @@ public final class PromiseTests extends RoomChecks {
             "9p 1c gather staple A4 plain;", "1p 1c A4 both plain;", "1p 1c A4 plain both;", "1p 1c bothgather A4 plain;",
             "1p 1c boths A4 plain;", "/p 1c A4 plain;", ":p 1c A4 plain;"};
         for (String text : wrong) {
-            fault(x, text, 0, 1);
+            fault(new PrintRoom(), text, 0, 1);
         }
         fault(x, "1p 1c A4 plain;;", 15, 1);
         fault(x, "1p 1c A4 plain; 1p 1c A4 plain;", 15, 1);
@@ -1060,17 +1060,18 @@ public final class PromiseTests extends RoomChecks {
         fault(x, "31p 1c gather staple2 A4 plain;", 0, 3);
         fault(x, "16p 1c gather staple2 A4 thick;", 0, 3);
         fault(x, "15p 1c gather staple2 A4 thick;31p 1c gather staple1 A3 plain;0p 1c A4 plain;", 31, 3);
-        x.set(3, 31);
-        fault(x, "31p 1c gather staple2 A4 plain;", MISSING, MISSING);
+        PrintRoom y = new PrintRoom();
+        y.set(3, 31);
+        fault(y, "31p 1c gather staple2 A4 plain;", MISSING, MISSING);
         for (int i = 0; i < 8; i++) {
-            x.job(1, 1, 1, 0, 0);
+            y.job(1, 1, 1, 0, 0);
         }
-        fault(x, "1p 1c A4 plain;1p 1c A4 plain;", MISSING, MISSING);
-        fault(x, "1p 1c A4 plain;1p 1c A4 plain;1p 1c A4 plain;", 30, 4);
-        fault(x, "1p 1c A4 plain;1p 1c A4 plain;1p 1c staple1 A4 plain;", 30, 3);
-        x.cancel(3);
-        fault(x, "1p 1c A4 plain;1p 1c A4 plain;1p 1c A4 plain;", MISSING, MISSING);
-        due("25: no text's refusal", x.refusal(), MISSING);
+        fault(y, "1p 1c A4 plain;1p 1c A4 plain;", MISSING, MISSING);
+        fault(y, "1p 1c A4 plain;1p 1c A4 plain;1p 1c A4 plain;", 30, 4);
+        fault(y, "1p 1c A4 plain;1p 1c A4 plain;1p 1c staple1 A4 plain;", 30, 3);
+        y.cancel(3);
+        fault(y, "1p 1c A4 plain;1p 1c A4 plain;1p 1c A4 plain;", MISSING, MISSING);
+        due("25: no text's refusal", y.refusal(), MISSING);
     }
 
     private static void enter() {

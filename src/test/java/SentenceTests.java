@@ -616,7 +616,7 @@ public final class SentenceTests extends RoomChecks {
 
     private static void heldSheetIsNotFinished() {
         PrintRoom x = filled();
-        x.set(SPOILING, 2);
+        x.set(SPOILING, 3);
         x.job(9, 1, A4, PLAIN, 0);
         x.run(3);
         x.hold(0, 1);
@@ -629,8 +629,8 @@ public final class SentenceTests extends RoomChecks {
         x.cancel(0);
         due("cancelled: spoiled at once", x.account(2), 2);
         x.job(9, 1, A4, PLAIN, 0);
-        due("held and cancelled: not counted as finished, so the second one is spoiled", x.run(2), 0);
-        due("held and cancelled: the third one comes", x.run(2), 1);
+        due("held and cancelled: not counted as finished, so the second one comes", x.run(2), 1);
+        due("held and cancelled: the third one is spoiled", x.run(2), 0);
         due("held and cancelled: spoiled", x.account(2), 3);
         due("held and cancelled: taken", x.account(0), 5);
     }
@@ -788,6 +788,12 @@ public final class SentenceTests extends RoomChecks {
             y.job(200, 50, A5, COLORED, 0);
         }
         due("lacking: the most of all", y.lacking(A5, COLORED), 100000);
+        PrintRoom z = printing(2, 1, GATHER + STAPLE1);
+        z.run(3);
+        z.load(0, A4, PLAIN);
+        due("lacking: a stapling under way is no sheet, and all are printed", z.lacking(A4, PLAIN), 0);
+        z.job(1, 1, A4, PLAIN, 0);
+        due("lacking: a stapling under way is no sheet", z.lacking(A4, PLAIN), 1);
     }
 
     private static void foretoldTicks() {
