@@ -10,6 +10,7 @@ public final class EmptyAndFullTests extends RoomChecks {
         mostJobs();
         heldJobsCountAmongTheMost();
         roomAgain();
+        newJobIsNew();
         mostJobsByText();
         numbersOfJobs();
         emptyTray();
@@ -107,6 +108,32 @@ public final class EmptyAndFullTests extends RoomChecks {
         x.undo();
         due("room again: behind undo", x.job(1, 1, A4, PLAIN, 0), 11);
         queue("room again", x, 2, 3, 4, 5, 6, 7, 8, 9, 10, 11);
+    }
+
+    /** What a job was that has left does not come back with a new one in its place. */
+    private static void newJobIsNew() {
+        for (boolean finished : new boolean[] {true, false}) {
+            PrintRoom x = filled();
+            x.set(SIDE, 1);
+            x.job(4, 2, A4, PLAIN, BOTH + GATHER + STAPLE1);
+            x.priority(0, 9);
+            x.run(12);
+            if (finished) {
+                x.run(50);
+            } else {
+                x.hold(0, 1);
+                x.cancel(0);
+            }
+            due("new job: the old one has left", x.count(0), 0);
+            due("new job: its number", x.job(5, 3, A5, FILM, 0), 1);
+            write(x, "6p 4c A3 colored;");
+            due("new job: one of a text", x.enter(), 1);
+            int[][] due = {{5, 3, A5, FILM, 0, 0, 0, 5, 15, 0, 0, 0, 0}, {6, 4, A3, COLORED, 0, 0, 0, 6, 24, 0, 0, 0, 0}};
+            for (int what = 0; what < 13; what++) {
+                due("new job: jobInfo " + what, x.jobInfo(1, what), due[0][what]);
+                due("new job of a text: jobInfo " + what, x.jobInfo(2, what), due[1][what]);
+            }
+        }
     }
 
     private static void mostJobsByText() {
@@ -431,7 +458,7 @@ public final class EmptyAndFullTests extends RoomChecks {
     private static void eachChangeIsKept() {
         kept("fill", x -> x.fill(0, 7));
         kept("load", x -> x.load(0, A5, FILM));
-        kept("load of the same paper", x -> x.load(1, A4, PLAIN));
+        kept("load of the same paper", x -> x.load(3, A4, PLAIN));
         kept("job", x -> x.job(1, 1, A4, PLAIN, 0));
         kept("hold", x -> x.hold(0, 1));
         kept("hold of none", x -> x.hold(0, 0));
@@ -439,7 +466,7 @@ public final class EmptyAndFullTests extends RoomChecks {
         kept("priority", x -> x.priority(1, 9));
         kept("priority as it is", x -> x.priority(1, 0));
         kept("staples", x -> x.staples(1));
-        kept("staples as they are", x -> x.staples(100));
+        kept("staples as they are", x -> x.staples(99));
         for (int what = 0; what < 6; what++) {
             int setting = what;
             kept("set", x -> x.set(setting, 7));

@@ -92,14 +92,14 @@ public final class RefusedCallTests extends RoomChecks {
     }
 
     private static void notFoundWhileBusy() {
-        busyRefused("hold(2, 1)", x -> x.hold(2, 1), MISSING);
-        busyRefused("hold(2, 0)", x -> x.hold(2, 0), MISSING);
-        busyRefused("cancel(2)", x -> x.cancel(2), MISSING);
-        busyRefused("priority(2, 9)", x -> x.priority(2, 9), MISSING);
-        busyRefused("jobInfo(2, 0)", x -> x.jobInfo(2, 0), MISSING);
-        busyRefused("queued(2)", x -> x.queued(2), MISSING);
+        busyRefused("hold(3, 1)", x -> x.hold(3, 1), MISSING);
+        busyRefused("hold(3, 0)", x -> x.hold(3, 0), MISSING);
+        busyRefused("cancel(3)", x -> x.cancel(3), MISSING);
+        busyRefused("priority(3, 9)", x -> x.priority(3, 9), MISSING);
+        busyRefused("jobInfo(3, 0)", x -> x.jobInfo(3, 0), MISSING);
+        busyRefused("queued(3)", x -> x.queued(3), MISSING);
         busyRefused("paper(1, 0)", x -> x.paper(1, 0), MISSING);
-        busyRefused("ticksTo(2)", x -> x.ticksTo(2), MISSING);
+        busyRefused("ticksTo(3)", x -> x.ticksTo(3), MISSING);
         busyRefused("ticksTo of the held one", x -> x.ticksTo(1), MISSING);
         busyRefused("fault(0)", x -> x.fault(0), MISSING);
     }
@@ -222,6 +222,14 @@ public final class RefusedCallTests extends RoomChecks {
     private static void refusalTellsTheLatest() {
         PrintRoom x = new PrintRoom();
         due("refusal: none", x.refusal(), MISSING);
+        int[][] wrong = {{0, 1, A4, PLAIN}, {201, 1, A4, PLAIN}, {5, 0, A4, PLAIN}, {5, 51, A4, PLAIN}, {5, 1, 4, PLAIN},
+            {5, 1, -1, FILM}, {5, 1, A4, 4}};
+        for (int[] w : wrong) {
+            for (int how : new int[] {STAPLE1, GATHER + STAPLE2}) {
+                due("refusal: wrong, though it could not be stapled", x.job(w[0], w[1], w[2], w[3], how), INVALID);
+                due("refusal: none for a wrong one", x.refusal(), MISSING);
+            }
+        }
         x.job(1, 1, A4, FILM, STAPLE1);
         due("refusal: the first", x.refusal(), 1);
         x.job(31, 1, A4, PLAIN, GATHER + STAPLE1);

@@ -66,17 +66,28 @@ abstract class RoomChecks {
     }
 
     /**
-     * A machine with something to change everywhere: a sheet under way, one that was spoiled, a held job, a text and a
-     * reason that refusal tells; two states are in its history.
+     * A machine with something to change everywhere. A sheet of job 0 is under way, in its third tick of five; the
+     * staying job 0 is ahead of job 2, which has a greater priority, and of the held job 1; the sheets of job 2 are the
+     * last ones ahead of the spoiled eighth one. There are a text, a refusal, and two states in the history.
      */
     static PrintRoom busy() {
         PrintRoom x = filled();
-        x.set(SPOILING, 2);
-        x.job(3, 2, A4, PLAIN, BOTH + GATHER + STAPLE1);
-        x.job(2, 1, A5, THICK, 0);
-        x.job(9, 1, A4, FILM, GATHER + STAPLE1);
+        x.load(2, A5, THICK);
+        x.fill(2, 20);
+        x.fill(3, 7);
+        x.set(SPOILING, 8);
+        x.job(4, 2, A4, PLAIN, BOTH + GATHER + STAPLE1);
+        x.job(2, 2, A4, PLAIN, 0);
+        x.job(3, 1, A5, THICK, 0);
+        x.job(31, 1, A4, PLAIN, GATHER + STAPLE1);
+        x.run(2);
+        x.hold(0, 1);
+        x.hold(0, 0);
+        x.run(5);
+        x.priority(2, 9);
         x.hold(1, 1);
-        x.run(8);
+        x.emptyBin();
+        x.run(10);
         write(x, "1p 1c A4 plain;");
         x.emptyBin();
         x.emptyBin();
@@ -144,7 +155,9 @@ abstract class RoomChecks {
         told.add("stop() = " + x.stop());
         tellQueue(x, told);
         for (int index = 0; x.paper(index, 0) >= 0; index++) {
-            told.add("paper " + index + ": " + x.paper(index, 0) + " " + x.paper(index, 1) + " " + x.paper(index, 2));
+            for (int what = 0; what < 3; what++) {
+                told.add("paper(" + index + ", " + what + ") = " + x.paper(index, what));
+            }
         }
         return told;
     }
