@@ -29,8 +29,11 @@ public final class ChangesTests extends RoomChecks {
         ticksOfStapling();
         lastTicks();
         staplingOfNoTicks();
+        staplingOfNoTicksAmidJob();
         spoiledSheets();
         severalTicks();
+        stops();
+        stopsChangeNothingLater();
         CHECKS.end("ChangesTests");
     }
 
@@ -293,6 +296,29 @@ public final class ChangesTests extends RoomChecks {
                 "queued(0) = 2", "queued(1) = 1"));
     }
 
+    private static void staplingOfNoTicksAmidJob() {
+        Maker firstSet = () -> {
+            PrintRoom x = filled();
+            x.set(STAPLING, 0);
+            x.job(2, 2, A4, PLAIN, GATHER + STAPLE1);
+            x.job(1, 1, A4, PLAIN, 0);
+            x.run(4);
+            x.priority(1, 9);
+            return x;
+        };
+        changes("a stapling of no ticks, then the same job's next sheet", firstSet, x -> x.run(1), 0,
+            now("count(4) = 99", "count(5) = 1", "count(6) = 1", "count(7) = 0", "account(0) = 3", "account(4) = 1",
+                "account(8) = 5", "tray(0, 2) = 97", "tray(0, 3) = 97", "tray(1, 3) = 97", "tray(2, 3) = 97",
+                "tray(3, 3) = 97", "paper(0, 2) = 3", "jobInfo(0, 10) = 1", "ticksTo(0) = 4", "ticksTo(1) = 5"));
+        Maker noPaper = () -> {
+            PrintRoom x = firstSet.make();
+            x.load(0, A4, PLAIN);
+            return x;
+        };
+        changes("a stapling of no ticks, then no paper", noPaper, x -> x.run(1), 0,
+            now("count(4) = 99", "account(4) = 1", "account(7) = 1", "account(8) = 5", "jobInfo(0, 10) = 1"));
+    }
+
     private static void spoiledSheets() {
         Maker ahead = () -> {
             PrintRoom x = busy();
@@ -321,5 +347,66 @@ public final class ChangesTests extends RoomChecks {
                 "tray(0, 2) = 95", "tray(0, 3) = 102", "tray(1, 3) = 102", "tray(3, 3) = 102", "tray(2, 2) = 17",
                 "tray(2, 3) = 17", "paper(0, 2) = 5", "paper(1, 0) = 0", "paper(1, 1) = 1", "paper(1, 2) = 3",
                 "queued(0) = 1", "stop() = 1"));
+    }
+
+    /** The busy machine as it stops for a reason; but for the first one, the staying job 0 waits for something. */
+    private static PrintRoom stopped(int reason) {
+        PrintRoom x = busy();
+        switch (reason) {
+            case 1 -> {
+                x.hold(0, 1);
+                x.hold(2, 1);
+            }
+            case 2 -> {
+                x.load(0, A4, PLAIN);
+                x.load(3, A4, PLAIN);
+                x.run(3);
+            }
+            case 3 -> {
+                x.set(BIN, 2);
+                x.run(3);
+            }
+            default -> {
+                x.staples(0);
+                x.run(8);
+            }
+        }
+        due("stopped", x.stop(), reason);
+        return x;
+    }
+
+    private static void stops() {
+        int[] ticks = {17, 20, 20, 25};
+        for (int reason = 1; reason <= 4; reason++) {
+            int due = reason;
+            String all = "account(8) = " + (ticks[reason - 1] + 3);
+            changes("stop for " + reason, () -> stopped(due), x -> x.run(3), 0, now("account(7) = 3", all));
+        }
+    }
+
+    /** What it waits for comes: it goes on as if it had not stopped. */
+    private static int goOn(PrintRoom x, int reason) {
+        return switch (reason) {
+            case 1 -> x.hold(2, 0);
+            case 2 -> x.fill(0, 50);
+            case 3 -> x.emptyBin();
+            default -> x.staples(50);
+        };
+    }
+
+    private static void stopsChangeNothingLater() {
+        for (int reason = 1; reason <= 4; reason++) {
+            PrintRoom x = stopped(reason);
+            PrintRoom twin = stopped(reason);
+            x.run(3);
+            due("a stop for " + reason + ", then", goOn(x, reason), goOn(twin, reason));
+            Map<String, String> got = answers(x);
+            Map<String, String> due = answers(twin);
+            due.put("account(7)", "3");
+            due.put("account(8)", String.valueOf(twin.account(8) + 3));
+            CHECKS.holds("a stop for " + reason + ": " + got + ", due is " + due, got.equals(due));
+            due("a stop for " + reason + ": it works again", x.stop(), 0);
+            due("a stop for " + reason + ": the staying job is ahead", x.queued(0), reason == 1 ? 2 : 0);
+        }
     }
 }

@@ -80,6 +80,7 @@ public final class RefusedCallTests extends RoomChecks {
         busyRefused("run(5001)", x -> x.run(5001), INVALID);
         busyRefused("type(31)", x -> x.type(31), INVALID);
         busyRefused("type(127)", x -> x.type(127), INVALID);
+        busyRefused("tray(4, 0)", x -> x.tray(4, 0), INVALID);
         busyRefused("tray(0, 4)", x -> x.tray(0, 4), INVALID);
         busyRefused("jobInfo(0, 13)", x -> x.jobInfo(0, 13), INVALID);
         busyRefused("queued(-1)", x -> x.queued(-1), INVALID);
@@ -110,16 +111,21 @@ public final class RefusedCallTests extends RoomChecks {
         refused("busy: film", maker, x -> x.job(5, 1, A4, FILM, GATHER + STAPLE2), IMPOSSIBLE, 2);
         refused("busy: one sheet", maker, x -> x.job(1, 1, A4, PLAIN, GATHER + STAPLE2), IMPOSSIBLE, 3);
         refused("busy: too many sheets", maker, x -> x.job(31, 1, A4, PLAIN, GATHER + STAPLE2), IMPOSSIBLE, 4);
-        Maker withFault = () -> {
-            PrintRoom x = busy();
-            x.type('x');
-            return x;
-        };
-        refused("busy: enter", withFault, x -> x.enter(), IMPOSSIBLE);
+        refused("busy: enter", RefusedCallTests::busyWithFault, x -> x.enter(), IMPOSSIBLE);
+    }
+
+    private static PrintRoom busyWithFault() {
+        PrintRoom x = busy();
+        x.type('x');
+        return x;
     }
 
     private static void refusedWhenFull() {
-        Maker maker = RoomChecks::full;
+        refusedWhenFull(RoomChecks::full);
+        refusedWhenFull(RoomChecks::busyAndFull);
+    }
+
+    private static void refusedWhenFull(Maker maker) {
         refused("full: fill(0, 2)", maker, x -> x.fill(0, 2), LIMIT);
         refused("full: fill(0, 500)", maker, x -> x.fill(0, 500), LIMIT);
         refused("full: job", maker, x -> x.job(1, 1, A4, PLAIN, 0), LIMIT);
@@ -137,6 +143,17 @@ public final class RefusedCallTests extends RoomChecks {
         refused("new: cancel", maker, x -> x.cancel(0), MISSING);
         refused("new: priority", maker, x -> x.priority(0, 1), MISSING);
         refused("new: job", maker, x -> x.job(1, 1, A4, PLAIN, GATHER + STAPLE1), IMPOSSIBLE, 3);
+        Maker busyWithoutStates = () -> {
+            PrintRoom x = busy();
+            for (int i = 0; i < 4; i++) {
+                x.staples(i);
+            }
+            for (int i = 0; i < 4; i++) {
+                x.undo();
+            }
+            return x;
+        };
+        refused("busy, no states: undo", busyWithoutStates, x -> x.undo(), IMPOSSIBLE);
     }
 
     private static void refusedAtTheMostTicks() {
@@ -145,16 +162,21 @@ public final class RefusedCallTests extends RoomChecks {
             for (int i = 0; i < 199; i++) {
                 x.run(5000);
             }
-            x.run(4997);
-            x.fill(0, 5);
+            x.run(4990);
+            x.set(SPOILING, 3);
+            x.fill(0, 9);
             x.job(3, 1, A4, PLAIN, 0);
+            x.job(3, 1, A4, PLAIN, 0);
+            x.run(3);
+            x.priority(1, 9);
+            x.type('1');
             return x;
         };
-        refused("most ticks: run(4)", maker, x -> x.run(4), LIMIT);
+        refused("most ticks: run(8)", maker, x -> x.run(8), LIMIT);
         refused("most ticks: run(5000)", maker, x -> x.run(5000), LIMIT);
         refused("most ticks: run(5001)", maker, x -> x.run(5001), INVALID);
         refused("most ticks: run(0)", maker, x -> x.run(0), INVALID);
-        due("most ticks: run(3)", maker.make().run(3), 1);
+        due("most ticks: run(7)", maker.make().run(7), 3);
     }
 
     private static void jobErrorsInOrder() {
@@ -250,7 +272,7 @@ public final class RefusedCallTests extends RoomChecks {
     }
 
     private static void questionsChangeNothing() {
-        Maker[] makers = {PrintRoom::new, RoomChecks::busy, RoomChecks::filled};
+        Maker[] makers = {PrintRoom::new, RoomChecks::busy, RoomChecks::filled, RefusedCallTests::busyWithFault};
         for (Maker maker : makers) {
             for (Call afterwards : AFTERWARDS) {
                 PrintRoom x = maker.make();

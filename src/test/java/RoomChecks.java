@@ -96,6 +96,17 @@ abstract class RoomChecks {
         return x;
     }
 
+    /** The busy machine with a full queue, tray, text and history. */
+    static PrintRoom busyAndFull() {
+        PrintRoom x = busy();
+        x.fill(0, 404);
+        for (int job = 3; job < 10; job++) {
+            x.job(1, 1, A4, PLAIN, 0);
+        }
+        write(x, "1p 1c A5 film;".repeat(5) + "1p 1c A4 plain;");
+        return x;
+    }
+
     /** A machine in which everything is full: the queue, a tray, the bin, the text and the history. */
     static PrintRoom full() {
         PrintRoom x = new PrintRoom();
