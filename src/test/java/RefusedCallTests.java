@@ -120,6 +120,15 @@ public final class RefusedCallTests extends RoomChecks {
         return x;
     }
 
+    /** All sheets of job 0 are in the bin, its second set is not stapled, and it is held. */
+    private static PrintRoom busyWithPrintedJob() {
+        PrintRoom x = busy();
+        x.run(8);
+        x.priority(0, 5);
+        x.hold(0, 1);
+        return x;
+    }
+
     private static void refusedWhenFull() {
         refusedWhenFull(RoomChecks::full);
         refusedWhenFull(RoomChecks::busyAndFull);
@@ -130,6 +139,9 @@ public final class RefusedCallTests extends RoomChecks {
         refused("full: fill(0, 500)", maker, x -> x.fill(0, 500), LIMIT);
         refused("full: job", maker, x -> x.job(1, 1, A4, PLAIN, 0), LIMIT);
         refused("full: type", maker, x -> x.type(';'), LIMIT);
+        refused("full: hold(10, 0)", maker, x -> x.hold(10, 0), MISSING);
+        refused("full: cancel(10)", maker, x -> x.cancel(10), MISSING);
+        refused("full: priority(10, 1)", maker, x -> x.priority(10, 1), MISSING);
         refused("full: enter", maker, x -> x.enter(), IMPOSSIBLE);
         refused("full: job to be stapled", maker, x -> x.job(2, 1, A4, PLAIN, STAPLE1), IMPOSSIBLE, 1);
     }
@@ -272,7 +284,8 @@ public final class RefusedCallTests extends RoomChecks {
     }
 
     private static void questionsChangeNothing() {
-        Maker[] makers = {PrintRoom::new, RoomChecks::busy, RoomChecks::filled, RefusedCallTests::busyWithFault};
+        Maker[] makers = {PrintRoom::new, RoomChecks::busy, RoomChecks::filled, RefusedCallTests::busyWithFault,
+            RefusedCallTests::busyWithPrintedJob};
         for (Maker maker : makers) {
             for (Call afterwards : AFTERWARDS) {
                 PrintRoom x = maker.make();

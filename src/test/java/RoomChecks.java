@@ -96,13 +96,14 @@ abstract class RoomChecks {
         return x;
     }
 
-    /** The busy machine with a full queue, tray, text and history. */
+    /** The busy machine with a full queue, tray, text and history; the last job is held, too. */
     static PrintRoom busyAndFull() {
         PrintRoom x = busy();
         x.fill(0, 404);
         for (int job = 3; job < 10; job++) {
             x.job(1, 1, A4, PLAIN, 0);
         }
+        x.hold(9, 1);
         write(x, "1p 1c A5 film;".repeat(5) + "1p 1c A4 plain;");
         return x;
     }
